@@ -442,8 +442,6 @@ public final class DunningHouse {
             invoices = new Table(MOST_INVOICES, INVOICE_COLUMNS);
             orders = new Table(MOST_ORDERS, ORDER_COLUMNS);
             hold = 1;
-            today = 0;
-            paid = 0;
         }
 
         void clear() {

@@ -156,6 +156,10 @@ public final class PromiseTest {
         faulty("hold 1;;", 7, 1);
         faulty("hold 1; 5", 8, 1);
         faulty("holds 1;", 0, 1);
+        faulty("holdz 1;", 0, 1);
+        faulty("holda 1;", 0, 1);
+        faulty("told 1;", 0, 1);
+        faulty("hole 1;", 0, 1);
         faulty("hol 1;", 0, 1);
         faulty("hold 1; hold 1;", 8, 1);
         faulty("hold 1; step 1 1 1;", 8, 1);
@@ -267,6 +271,14 @@ public final class PromiseTest {
         }
         x.dispute(0);
         Check.same("disputed ones are owed", x.now(6), 300);
+        x.pay(0, 160);
+        Check.same("cash of both", x.now(7), 70);
+        DunningHouse y = Check.told("hold 1; debtor 10 1;");
+        y.asks(0, 11);
+        y.asks(0, 12);
+        y.asks(0, 13);
+        y.cancel(2);
+        Check.same("orders that wait", y.now(5), 2);
         for (int what : new int[] {-1, 11, LEAST, MOST}) {
             Check.same("now(" + what + ")", x.now(what), -1);
         }
@@ -560,6 +572,7 @@ public final class PromiseTest {
         Check.same("bill", x.bill(1, 1, 0), 1);
         Check.same("its due", x.invoice(1, 3), 3);
         Check.same("its debtor", x.invoice(1, 0), 1);
+        Check.same("no fee", x.invoice(1, 6), 0);
         x.pay(1, 8);
         Check.same("cash is placed", x.bill(1, 5, 9), 2);
         Check.same("what is open", x.invoice(2, 2), 0);
@@ -993,6 +1006,9 @@ public final class PromiseTest {
         x.pass(1);
         Check.same("the third", x.invoice(4, 1), 9);
         Check.same("owed", x.debtor(0, 2), 21);
+        DunningHouse least = Check.told("step 1 0 1; hold 1; debtor 0 0; invoice 0 5 0;");
+        least.pass(1);
+        Check.same("the least fee", least.invoice(1, 1), 1);
         DunningHouse y = Check.told("step 1 0 7; hold 1; debtor 0 0; debtor 0 0; invoice 0 5 0; invoice 1 5 0;");
         for (int i = 2; i < 59; i++) {
             y.bill(0, 1, 99);

@@ -34,7 +34,7 @@ final class ActBoundaries {
     /** "SUM not 1 to 9999". */
     static void promise16Sum1To9999() {
         Story x = twoDebtors().refusedWith("bill(0, ?, 5)", -1, "0", "-1", "10000", "10001", "MIN", "MAX");
-        x.due("bill(0, 1, 5)", 2).due("invoice(2, 1)", 1).due("invoice(2, 2)", 1);
+        x.due("bill(0, 1, 5)", 2).due("invoice(2, 1)", 1).due("invoice(2, 2)", 1).due("invoice(2, 6)", 0);
         x.due("bill(0, 9999, 5)", 3).due("invoice(3, 1)", 9999).due("invoice(3, 2)", 9999);
     }
 
@@ -84,7 +84,8 @@ final class ActBoundaries {
     static void promise17TheEarliestDueFirst() {
         Story x = Story.told("hold 1;debtor 0 0;debtor 0 0;invoice 0 5 4;invoice 0 6 3;invoice 1 9 0;invoice 0 7 3;"
             + "invoice 0 8 2;");
-        int[][] open = {{5, 6, 7, 1}, {5, 6, 7, 0}, {5, 5, 7, 0}, {5, 0, 7, 0}, {5, 0, 6, 0}, {5, 0, 0, 0}, {4, 0, 0, 0}};
+        int[][] open = {{5, 6, 7, 1}, {5, 6, 7, 0}, {5, 5, 7, 0}, {5, 0, 7, 0}, {5, 0, 6, 0}, {5, 0, 0, 0},
+            {4, 0, 0, 0}};
         int[] paid = {7, 1, 1, 5, 1, 6, 1};
         int[] invoices = {0, 1, 3, 4};
         for (int i = 0; i < paid.length; i++) {
@@ -197,8 +198,8 @@ final class ActBoundaries {
         Story x = twoDebtors().does("bill(0, 9, 9) dispute(2)")
             .refusedWith("promise(?, 5, 5)", -1, "-1", "2", "MIN", "MAX");
         x.refusedWith("promise(0, ?, 5)", -1, "0", "-1", "61", "69", "MIN", "MAX");
-        x.due("promise(0, 60, 5)", 0).due("promised(0, 0)", 60).does("undo()").due("promise(0, 1, 5)", 0)
-            .does("undo()");
+        x.due("promise(0, 60, 5)", 0).due("promised(0, 0)", 60).does("undo()").due("promise(0, 1, 5)", 0);
+        x.due("promised(0, 0)", 1).refused("promise(0, 1, 5)", -2).does("undo()");
         x.does("pay(0, 59)").refused("promise(0, 2, 5)", -1).due("promise(0, 1, 5)", 0).does("undo() pay(0, 1)");
         x.refusedWith("promise(0, ?, 5)", -1, "0", "1");
         Story.told("hold 1;").refused("promise(0, 1, 0)", -1);
@@ -334,6 +335,13 @@ final class ActBoundaries {
         x.does("pay(1, 21)").does("asks(1, 41)").due("order(2, 2)", 1).does("asks(1, 1)").due("order(3, 2)", 0);
         Story.told("hold 1;debtor 0 0;").does("asks(0, 1)").due("order(0, 2)", 0).does("pay(0, 1)")
             .due("order(0, 2)", 1);
+    }
+
+    /** "RISK of a DEBTOR: what it OWES", "OPEN of all its INVOICES": a DISPUTED one takes its part of the LIMIT. */
+    static void promise22DisputedOnesAreRisk() {
+        Story x = twoDebtors().does("dispute(0)").due("debtor(0, 2)", 60).due("debtor(0, 3)", 0);
+        x.due("debtor(0, 10)", 60).does("asks(0, 41)").due("order(0, 2)", 0).due("would(0, 1)", 1).does("undo() asks(0, 40)");
+        x.due("order(0, 2)", 1).due("debtor(0, 10)", 100);
     }
 
     /** "at the first that is not, no more". */

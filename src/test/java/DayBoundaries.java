@@ -240,7 +240,8 @@ final class DayBoundaries {
 
     /** "(4) DEBTOR by DEBTOR": FEES come by the DEBTORS' numbers. */
     static void promise25FeesDebtorByDebtor() {
-        Story x = Story.told("step 1 0 7;hold 1;" + "debtor 0 0;".repeat(6) + "invoice 5 5 0;invoice 0 5 0;invoice 3 5 1;");
+        Story x = Story.told("step 1 0 7;hold 1;" + "debtor 0 0;".repeat(6)
+            + "invoice 5 5 0;invoice 0 5 0;invoice 3 5 1;");
         x.does("pass(1)").due("now(3)", 5).due("invoice(3, 0)", 0).due("invoice(4, 0)", 5).does("pass(1)");
         x.due("now(3)", 6).due("invoice(5, 0)", 3).due("invoice(5, 3)", 2);
     }

@@ -74,6 +74,20 @@ final class LookBoundaries {
         full().looks("debtor(5, 1)", 99).refused("debtor(6, 1)", Call.NO_SUCH);
     }
 
+    /** "CASH that waits (0), a STAGE (.. 0), the DAY of the latest of them (0), .. BROKEN promises (0)": at first. */
+    static void promise08AtFirst() {
+        Story x = small();
+        int[] due = {90, 9, 60, 60, 0, 0, 0, 0, 0, 0, 60};
+        for (int what = 0; what < due.length; what++) {
+            x.looks("debtor(1, " + what + ")", due[what]);
+        }
+        int[] invoice = {1, 60, 60, 0, 0, 0, 0};
+        for (int what = 0; what < invoice.length; what++) {
+            x.looks("invoice(1, " + what + ")", invoice[what]);
+        }
+        x.refused("promised(1, 0)", -1).refused("planned(1, 0)", -1);
+    }
+
     /** "the greatest AGE of INVOICES that are OPEN and not DISPUTED (0)": without one it is 0. */
     static void promise08NoAgeIs0() {
         Story.told("hold 1;debtor 0 0;").looks("debtor(0, 7)", 0);
@@ -244,6 +258,15 @@ final class LookBoundaries {
         x.looks("next(0)", -2).does("pass(18)").looks("next(0)", -2).does("pass(1)").looks("next(0)", -2);
         x.does("pass(1)").looks("next(0)", 200).does("pass(1)").looks("next(0)", 199);
         x.does("pass(99) pass(99)").looks("next(0)", 1).due("debtor(0, 5)", 0).does("pass(1)").due("debtor(0, 5)", 1);
+    }
+
+    /** "if nothing is done": a PROMISE, a PLAN ends by itself, on the first DAY or the last that it can. */
+    static void promise14WhenAPromiseOrPlanEnds() {
+        Story x = Story.told("step 1 0 0;hold 1;debtor 0 0;invoice 0 10 0;").looks("next(0)", 1);
+        x.does("promise(0, 5, 0)").looks("next(0)", 2).does("undo() promise(0, 5, 30)").looks("next(0)", 32);
+        x.does("undo() plan(0, 2, 1)").looks("next(0)", 3).does("pay(0, 5)").looks("next(0)", 4);
+        x.does("undo() undo() plan(0, 2, 30)").looks("next(0)", 32).does("pay(0, 4)").looks("next(0)", 32);
+        x.does("pay(0, 1)").looks("next(0)", 62).does("pay(0, 5)").looks("next(0)", -2);
     }
 
     /** "-2: not in 200": what never comes. */

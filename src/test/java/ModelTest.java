@@ -302,7 +302,8 @@ public final class ModelTest {
                     text.insert(at, new String[] {" step ", " hold ", " debtor ", " invoice ", " 0 ", " x "}[up(5)]);
                     break;
                 default:
-                    text.insert(pick(0, at, text.length()), " ".repeat(Math.max(0, pick(590, 600, 610) - text.length())));
+                    int blanks = Math.max(0, pick(590, 600, 610) - text.length());
+                    text.insert(pick(0, at, text.length()), " ".repeat(blanks));
             }
             if (text.length() == 0) {
                 text.append(' ');

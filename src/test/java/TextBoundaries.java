@@ -153,6 +153,10 @@ final class TextBoundaries {
         faulty("hold 1;" + blanks(592) + ";;", 599, 1);
         faulty("hold 1;" + blanks(593) + ";", 600, 1);
         faulty("hold" + blanks(596) + "0;", 600, 1);
+        faulty("hold" + blanks(597), 600, 1);
+        faulty("hold 1" + blanks(595), 600, 1);
+        faulty("hold 1;debtor 500" + blanks(600), 600, 1);
+        faulty("hold 1;debtor 500 1" + blanks(600), 600, 1);
         faulty("hold 1" + blanks(593) + "; ", 600, 1);
         fine("hold 1" + blanks(593) + ";", 1);
         faulty("hold 1" + blanks(594) + ";", 600, 1);
@@ -207,10 +211,24 @@ final class TextBoundaries {
         faulty("hold 1a;", 5, 1);
         faulty("hold a1;", 5, 1);
         faulty("ho ld 1;", 0, 1);
+        faulty("Hold 1;", 0, 1);
         faulty("hold 1;debtor 1 2invoice 0 1 1;", 16, 1);
         faulty("hold 1;debtor1 2;", 7, 1);
         fine("hold 1;debtor 1 2;", 2);
         fine("\nhold\n1\n;\ndebtor\n1\n2\n;\n", 2);
+    }
+
+    /** 'step', 'hold', 'debtor', 'invoice': a WORD of which one letter is another one can't come. */
+    static void promise04WordsToTheLetter() {
+        String[] lines = {"step 1 1 1;", "hold 1;", "debtor 1 1;", "invoice 0 1 1;"};
+        String text = String.join("", lines);
+        for (String line : lines) {
+            int from = text.indexOf(line);
+            for (int i = from; i < from + line.indexOf(' '); i++) {
+                faulty(text.substring(0, i) + 'z' + text.substring(i + 1), from, 1);
+            }
+        }
+        fine(text, 4);
     }
 
     /** "with blanks (32, 10) between them or not"; "what is not as told is no TOKEN": each byte in each place. */
@@ -406,7 +424,7 @@ final class TextBoundaries {
     static void promise04ANewTextBeginsAnew() {
         for (String text : new String[] {HOUSE, "hold 1;", "step 1 0 0;hold 1;debtor 60 2;invoice 0 50 1;",
             "hold 9;" + "debtor 5 5;".repeat(6) + "invoice 5 5 5;".repeat(12)}) {
-            Story x = Story.told(HOUSE).does(ACTS).does("pass(20) pay(2, 99) ships(0)");
+            Story x = Story.told(HOUSE).does(ACTS).does("pass(20) pay(2, 99) ships(0) would(2, 5)").due("next(2)", -2);
             int lines = (int) text.chars().filter(sign -> sign == ';').count();
             x.tells(text, lines, 0).isLike(Story.told(text));
             x.due("now(0)", 0).due("now(4)", 0).due("now(8)", 0).due("now(9)", 0).refused("undo()", -1);

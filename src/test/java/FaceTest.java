@@ -47,12 +47,18 @@ public final class FaceTest {
                     text.append(text.charAt(text.length() - 1) == '(' ? "" : ",").append(p);
                 }
                 open.add(text + ")");
+                String thrown = m.getName().equals("debtor") ? "[class java.util.NoSuchElementException]" : "[]";
+                Check.same(m.getName() + " throws", Arrays.toString(m.getExceptionTypes()), thrown);
             }
         }
         Check.same("the open methods", open.toString(), new TreeSet<>(FACE).toString());
         for (Field f : type.getDeclaredFields()) {
             boolean isNone = f.getName().equals("NONE");
             Check.same(f + " is private", Modifier.isPrivate(f.getModifiers()), !isNone);
+            if (isNone) {
+                Check.same("modifiers of NONE", f.getModifiers(), Modifier.PUBLIC | Modifier.STATIC | Modifier.FINAL);
+                Check.same("type of NONE", f.getType().getName(), "int");
+            }
         }
         Check.same("constructors", type.getDeclaredConstructors().length, 1);
         for (Constructor<?> c : type.getDeclaredConstructors()) {
@@ -98,8 +104,24 @@ public final class FaceTest {
         while (imports.find()) {
             Check.same("import", imports.group(1), "java.util.NoSuchElementException");
         }
+        checkMethodsAreShort(code);
         Matcher longLine = Pattern.compile("(?m)^.{121,}$").matcher(source);
         Check.same("a line of over 120 signs", longLine.find(), false);
         Check.same("signs beyond 127", source.chars().anyMatch(c -> c > 127), false);
+    }
+
+    /** A method begins and ends at the same indent: four blanks, or eight in a class inside. */
+    private static void checkMethodsAreShort(String code) {
+        String[] lines = code.split("\n");
+        int from = -1;
+        for (int i = 0; i < lines.length; i++) {
+            if (lines[i].matches("( {4}| {8})(?!if|for|while|switch)[a-zA-Z].*\\) (throws \\w+ )?\\{")) {
+                from = i;
+            } else if (from >= 0 && lines[i].equals(lines[from].replaceAll("\\S.*", "") + "}")) {
+                Check.same("over sixty lines: " + lines[from].trim(), i - from + 1 > 60, false);
+                from = -1;
+            }
+        }
+        Check.same("a method whose end was not found", from >= 0, false);
     }
 }

@@ -36,8 +36,13 @@ public final class ModelTest {
         }
         tell(text(run % 50 == 0));
         boolean busy = run % 4 == 0;
+        boolean hoards = run % 4 == 1;
         while (calls < CALLS) {
-            act(busy);
+            if (hoards && random.nextInt(3) == 0) {
+                hoard();
+            } else {
+                act(busy);
+            }
             if (random.nextInt(8) == 0) {
                 look();
             }
@@ -65,6 +70,18 @@ public final class ModelTest {
     private int id(int count) {
         return random.nextInt(12) == 0 ? pick(-1, count, -2, Integer.MIN_VALUE, Integer.MAX_VALUE)
             : count == 0 ? 0 : random.nextInt(count);
+    }
+
+    /** Mostly not refused, so that INVOICES and ORDERS grow to as many as there can be. */
+    private void hoard() {
+        int d = random.nextInt(Math.max(1, model.now(2)));
+        int sum = 1 + up(20);
+        if (random.nextInt(3) == 0) {
+            due("asks(" + d + ", " + sum + ")", house.asks(d, sum), model.asks(d, sum));
+        } else {
+            int days = up(20);
+            due("bill(" + d + ", " + sum + ", " + days + ")", house.bill(d, sum, days), model.bill(d, sum, days));
+        }
     }
 
     private void act(boolean busy) {
